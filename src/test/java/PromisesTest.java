@@ -37,6 +37,7 @@ public final class PromisesTest {
         votes();
         drive();
         orderAndLimits();
+        farOutside();
         System.out.println(wrong == 0 ? "all promises hold" : wrong + " answers are not as due");
         if (wrong != 0) System.exit(1);
     }
@@ -426,6 +427,15 @@ public final class PromisesTest {
         yes("up", y.power(0, true));
         answer(y, 2, 0, 1);
         due("a lost vote binds nothing", y.pick(2, 0, 4), 4);
+        BallotDesk z = three();
+        for (int b = 1; b <= 3; b++) due("begin", z.begin(0, false), b);
+        answer(z, 2, 1);
+        answer(z, 3, 1, 2);
+        due("pick 3", z.pick(3, 0, 6), 6);
+        yes("ask", z.ask(2, 0));
+        yes("a vote behind the answer in the queue", z.vote(3, 0, 0));
+        due("just the answer is synced", z.sync(0, 1), 1);
+        due("so the vote is not kept", z.pick(2, 0, 4), 4);
     }
 
     /** Four nodes, any three of them are a quorum of each kind. */
@@ -481,6 +491,23 @@ public final class PromisesTest {
         proposeSynced(x, 1, 0, 6, 0);
         answer(x, 2, 0);
         due("the SYSTEM of k, not of b, says what is FAST", x.pick(2, 0, 3), 6);
+        BallotDesk y = new BallotDesk();
+        yes("WRITE is 2 of 3, FAST all", y.define(0, COUNT, 7, 2, 2, 3));
+        due("fast", y.begin(0, true), 1);
+        due("any", y.pick(1, 0, 1), 0);
+        due("begin", y.begin(0, false), 2);
+        proposeSynced(y, 1, 0, 7, 0);
+        proposeSynced(y, 1, 0, 5, 1);
+        answer(y, 2, 0, 1);
+        due("one vote and the silent node are no FAST quorum", y.pick(2, 0, 3), 3);
+        BallotDesk z = new BallotDesk();
+        yes("WRITE is 2 of 3, FAST all", z.define(0, COUNT, 7, 2, 2, 3));
+        due("fast", z.begin(0, true), 1);
+        due("any", z.pick(1, 0, 1), 0);
+        due("begin", z.begin(0, false), 2);
+        proposeSynced(z, 1, 0, 7, 0, 1);
+        answer(z, 2, 0, 1);
+        due("two votes and the silent node are", z.pick(2, 0, 3), 7);
     }
 
     private static void pickFromBaseOn() {
@@ -573,6 +600,7 @@ public final class PromisesTest {
         for (int n : new int[] {-1, 7}) no("node " + n, x.propose(1, 0, n, 1));
         no("ballot 0", x.propose(0, 0, 0, 1));
         no("ballot 3", x.propose(3, 0, 0, 1));
+        no("ballot 99", x.propose(99, 0, 0, 1));
         no("nothing picked", x.propose(1, 1, 0, 1));
         yes("propose", x.propose(1, 0, 0, 7));
         due("for itself", x.node(0, 2), 15);
@@ -796,6 +824,11 @@ public final class PromisesTest {
         voteSynced(x, 2, 0, 1);
         due("chosen by the SYSTEM of 2", x.chosen(0), 5);
         due("just there", x.chosen(1), 0);
+        voteSynced(x, 2, 1, 1);
+        due("another instance", x.chosen(1), 5);
+        BallotDesk y = fastFour();
+        proposeSynced(y, 1, 0, 7, 0, 1, 3);
+        due("7", y.chosen(0), 7);
     }
 
     private static void possible() {
@@ -922,24 +955,26 @@ public final class PromisesTest {
         answer(x, 4, 1, 2, 3);
         due("ready stays", x.answers(3), 0);
         for (int b : new int[] {-1, 0, 5}) due("ballot " + b, x.answers(b), REFUSED);
-        voterDoesNotAnswer();
+        answersByPromises();
         answersFromBaseOn();
     }
 
-    private static void voterDoesNotAnswer() {
+    private static void answersByPromises() {
         BallotDesk x = three();
         due("begin", x.begin(0, false), 1);
         due("begin", x.begin(0, false), 2);
-        answer(x, 2, 0, 1);
-        pickAll(x, 2, 1);
         due("begin", x.begin(0, false), 3);
-        answer(x, 3, 0, 1);
-        pickAll(x, 3, 1);
-        yes("complete", x.complete(3));
-        voteSynced(x, 3, 0, 2);
+        yes("ask", x.ask(3, 0));
+        yes("ask", x.ask(3, 1));
+        due("promises that are not synced do not count", x.answers(2), 2);
+        due("sync", x.sync(0, 1), 1);
+        due("nodes 1 and 2 are left", x.answers(2), 2);
+        due("sync", x.sync(1, 1), 1);
+        due("node 2 is left", x.answers(2), NONE);
+        due("pick", x.pick(3, 0, 1), 1);
         due("begin", x.begin(0, false), 4);
-        due("two more", x.answers(4), 2);
-        voteSynced(x, 3, 1, 2);
+        voteSynced(x, 3, 0, 2);
+        due("a vote promises, too", x.answers(2), NONE);
         due("promise 3 is below 4", x.answers(4), 2);
     }
 
@@ -1121,5 +1156,43 @@ public final class PromisesTest {
         due("the others for instance 0", x.drive(1, 2, 7), 7);
         due("then node 0", x.drive(1, 2, 1), 1);
         due("for instance 1", x.node(0, 3), 10);
+    }
+
+    /** Wrong inputs far from the ranges are answered like those next to them, and nothing is thrown. */
+    private static void farOutside() {
+        part = "far outside";
+        BallotDesk x = three();
+        due("begin", x.begin(0, true), 1);
+        due("any", x.pick(1, 0, 1), 0);
+        for (int bad : new int[] {Integer.MIN_VALUE, -1000, 1000, 65536, Integer.MAX_VALUE}) {
+            no("define", x.define(bad, COUNT, 1, 1, 1, 1) || x.define(1, bad, 1, 1, 1, 1));
+            no("define", x.define(1, COUNT, bad, 1, 1, 1) || x.define(1, GRID, bad, bad, 1, 1));
+            no("define", x.define(1, WEIGHTS, 1, bad, 1, 1) || x.define(1, WEIGHTS, 1, 1, bad, 1));
+            due("quorum", x.quorum(bad, 0, 1) & x.quorum(0, bad, 1) & x.quorum(0, 0, bad), REFUSED);
+            due("system", x.system(bad, 0, 1) & x.system(0, bad, 1) & x.system(0, 0, bad), REFUSED);
+            due("common", x.common(bad, 0, 0, 0) & x.common(0, bad, 0, 0) & x.common(0, 0, bad, 0), REFUSED);
+            due("common", x.common(0, 0, 0, bad), REFUSED);
+            due("begin", x.begin(bad, true), REFUSED);
+            no("power", x.power(bad, true) || x.power(bad, false));
+            no("ask", x.ask(bad, 0) || x.ask(1, bad));
+            due("pick", x.pick(bad, 0, 1) & x.pick(1, bad, 1) & x.pick(1, 1, bad), REFUSED);
+            no("vote", x.vote(bad, 0, 0) || x.vote(1, bad, 0) || x.vote(1, 0, bad));
+            no("propose", x.propose(bad, 0, 0, 1) || x.propose(1, bad, 0, 1));
+            no("propose", x.propose(1, 0, bad, 1) || x.propose(1, 0, 0, bad));
+            due("sync", x.sync(bad, 1) & x.sync(0, bad), REFUSED);
+            no("complete", x.complete(bad));
+            due("hear", x.hear(bad, 0) & x.hear(0, bad), REFUSED);
+            due("node", x.node(bad, 0) & x.node(0, bad), REFUSED);
+            due("ballot", x.ballot(bad, 0) & x.ballot(1, bad), REFUSED);
+            due("tally", x.tally(bad, 0, 1) & x.tally(1, bad, 1) & x.tally(1, 0, bad), REFUSED);
+            due("chosen", x.chosen(bad), REFUSED);
+            due("possible", x.possible(bad), REFUSED);
+            due("learned", x.learned(bad, 0) & x.learned(0, bad), REFUSED);
+            due("answers", x.answers(bad), REFUSED);
+            due("votes", x.votes(bad, 0, 1) & x.votes(1, bad, 1) & x.votes(1, 0, bad), REFUSED);
+            due("drive", x.drive(bad, 1, 1) & x.drive(1, bad, 1) & x.drive(1, 1, bad), REFUSED);
+        }
+        due("nothing has changed", x.ballot(1, 7), NONE);
+        due("nothing has been written", x.node(0, 9), 0);
     }
 }
