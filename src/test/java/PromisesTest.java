@@ -1,11 +1,5 @@
 /** Each promise of the document by itself: ordinary inputs, the edges that it names, and wrong inputs. */
-public final class PromisesTest {
-    private static final int REFUSED = -1, FULL = -2, NONE = -3;
-    private static final int READ = 0, WRITE = 1, FAST = 2;
-    private static final int COUNT = 0, GRID = 1, WEIGHTS = 2, LISTS = 3;
-    private static int wrong = 0;
-    private static String part = "";
-
+public final class PromisesTest extends Checks {
     public static void main(String[] args) {
         newObject();
         defineCount();
@@ -38,59 +32,7 @@ public final class PromisesTest {
         drive();
         orderAndLimits();
         farOutside();
-        System.out.println(wrong == 0 ? "all promises hold" : wrong + " answers are not as due");
-        if (wrong != 0) System.exit(1);
-    }
-
-    private static void due(String what, int got, int want) {
-        if (got != want) {
-            wrong++;
-            System.out.println(part + ": " + what + " answered " + got + ", due is " + want);
-        }
-    }
-
-    private static void due(String what, boolean got, boolean want) {
-        due(what, got ? 1 : 0, want ? 1 : 0);
-    }
-
-    private static void yes(String what, boolean got) {
-        due(what, got, true);
-    }
-
-    private static void no(String what, boolean got) {
-        due(what, got, false);
-    }
-
-    /** Three nodes 0..2, any two of them are READ and WRITE quorums, all three a FAST one. */
-    private static BallotDesk three() {
-        BallotDesk x = new BallotDesk();
-        yes("define three", x.define(0, COUNT, 7, 2, 2, 3));
-        return x;
-    }
-
-    private static void answer(BallotDesk x, int b, int... nodes) {
-        for (int n : nodes) {
-            yes("ask " + b + " " + n, x.ask(b, n));
-            due("sync " + n, x.sync(n, 6), 1);
-        }
-    }
-
-    private static void voteSynced(BallotDesk x, int b, int i, int... nodes) {
-        for (int n : nodes) {
-            yes("vote " + b + " " + i + " " + n, x.vote(b, i, n));
-            due("sync " + n, x.sync(n, 6), 1);
-        }
-    }
-
-    private static void proposeSynced(BallotDesk x, int b, int i, int v, int... nodes) {
-        for (int n : nodes) {
-            yes("propose " + b + " " + i + " " + n + " " + v, x.propose(b, i, n, v));
-            due("sync " + n, x.sync(n, 6), 1);
-        }
-    }
-
-    private static void pickAll(BallotDesk x, int b, int v) {
-        for (int i = 0; i < 3; i++) due("pick all " + b + " " + i, x.pick(b, i, v), v);
+        end();
     }
 
     private static void newObject() {
@@ -436,16 +378,6 @@ public final class PromisesTest {
         yes("a vote behind the answer in the queue", z.vote(3, 0, 0));
         due("just the answer is synced", z.sync(0, 1), 1);
         due("so the vote is not kept", z.pick(2, 0, 4), 4);
-    }
-
-    /** Four nodes, any three of them are a quorum of each kind. */
-    private static BallotDesk fastFour() {
-        BallotDesk x = new BallotDesk();
-        yes("define four", x.define(0, COUNT, 15, 3, 3, 3));
-        due("fast", x.begin(0, true), 1);
-        due("any", x.pick(1, 0, 1), 0);
-        due("begin", x.begin(0, false), 2);
-        return x;
     }
 
     private static void pickAfterFast() {
