@@ -22,6 +22,7 @@ public final class BallotBoundaryTest extends Checks {
         sentence("Terms: b keeps its VOTES as they are SYNCED by then", BallotBoundaryTest::keptByThen);
         sentence("Terms: a VOTE: PROMISE is its ballot", BallotBoundaryTest::votePromises);
         sentence("Terms: when a node goes DOWN its QUEUE is lost", BallotBoundaryTest::queueLost);
+        sentence("Terms: its QUEUE is lost: of each node, for each INSTANCE", BallotBoundaryTest::queueLostOfEach);
         sentence("Terms: it ANSWERS if its PROMISE is below b", BallotBoundaryTest::promiseBelow);
         sentence("Terms: it ANSWERS if it is UP", BallotBoundaryTest::answersUp);
         sentence("Terms: READY for each ballot c below b: with none there", BallotBoundaryTest::readyFirst);
@@ -30,6 +31,10 @@ public final class BallotBoundaryTest extends Checks {
         sentence("Terms: what it PICKS: if there is none, it is FREE", BallotBoundaryTest::freeWithoutVotes);
         sentence("Terms: k is not below its BASE", BallotBoundaryTest::votesFromBase);
         sentence("Terms: k is the greatest ballot of VOTES", BallotBoundaryTest::greatestBallot);
+        sentence("Terms: VOTES that b keeps: those of the first and of the last node", BallotBoundaryTest::keptOfEach);
+        sentence("Terms: VOTES that b keeps, not those that other ballots keep", BallotBoundaryTest::keptByAnother);
+        sentence("Terms: a FAST quorum of the SYSTEM of k", BallotBoundaryTest::systemOfK);
+        sentence("Terms: a FAST quorum with all those that did not ANSWER b, whoever", BallotBoundaryTest::silentOfEach);
         sentence("Terms: a FAST quorum with all those that did not ANSWER b", BallotBoundaryTest::silentNodes);
         sentence("Terms: if there is none (no such value), it is FREE", BallotBoundaryTest::freeAfterAny);
         sentence("Terms: FREE: a FAST ballot PICKS ANY, another one the value given", BallotBoundaryTest::freePicks);
@@ -47,6 +52,7 @@ public final class BallotBoundaryTest extends Checks {
         sentence("Terms: to be COMPLETED: FREE or CHOSEN there in this ballot", BallotBoundaryTest::completeChosen);
         sentence("Terms: LEARNERS 0, 1", BallotBoundaryTest::learners);
         sentence("Terms: VOTES as they are SYNCED at that time", BallotBoundaryTest::heardSynced);
+        sentence("Terms: its VOTES are the latest ones", BallotBoundaryTest::heardLatest);
         sentence("Terms: not those that are SYNCED later, until they HEAR it again", BallotBoundaryTest::heardAgain);
         sentence("Terms: besides all that they know", BallotBoundaryTest::heardBefore);
         sentence("Terms: LEARNS: they VOTED for it in one ballot", BallotBoundaryTest::learnsInOne);
@@ -372,20 +378,29 @@ public final class BallotBoundaryTest extends Checks {
     private static void keptByThen() {
         BallotDesk x = three(3);
         pickAll(x, 1, 5);
-        answer(x, 3, 1);
-        answer(x, 3, 2);
+        answer(x, 2, 1);
+        answer(x, 3, 1, 2);
         pickAll(x, 3, 6);
         yes("a vote before the answer", x.vote(1, 0, 0));
         yes("the answer", x.ask(2, 0));
         yes("a vote after the answer", x.vote(3, 1, 0));
-        yes("another answer behind it", x.begin(0, false) == 4 && x.ask(4, 0));
         due("vote and answer", x.sync(0, 2), 2);
-        answer(x, 2, 3);
-        due("node 0 alone is not enough", x.ballot(2, 4), 0);
-        due("vote and answer", x.sync(0, 2), 2);
-        answer(x, 4, 1);
-        due("4 keeps the vote in 3", x.pick(4, 1, 2), 6);
-        due("and the one in 1", x.pick(4, 0, 2), 5);
+        due("ready", x.ballot(2, 4), 1);
+        due("the vote before it is kept", x.pick(2, 0, 4), 5);
+        due("the vote after it, which is not synced, is not", x.pick(2, 1, 4), 4);
+        due("the vote after it", x.sync(0, 1), 1);
+        due("begin", x.begin(0, false), 4);
+        answer(x, 4, 0, 1);
+        due("4 keeps the vote in 1", x.pick(4, 0, 2), 5);
+        due("and the one in 3", x.pick(4, 1, 2), 6);
+        BallotDesk w = three(3);
+        answer(w, 2, 1);
+        answer(w, 3, 1, 2);
+        pickAll(w, 3, 6);
+        yes("ask", w.ask(2, 0));
+        yes("vote", w.vote(3, 0, 0));
+        due("answer and vote", w.sync(0, 2), 2);
+        due("a vote that is synced after it is not kept, either", w.pick(2, 0, 4), 4);
         BallotDesk y = three(2);
         pickAll(y, 1, 5);
         answer(y, 2, 0, 1);
@@ -444,6 +459,23 @@ public final class BallotBoundaryTest extends Checks {
         due("answered", x.ballot(3, 3), 4);
         due("voted", x.tally(4, 0, 5), 4);
         due("not for the lost one", x.tally(4, 0, 6), 0);
+    }
+
+    private static void queueLostOfEach() {
+        for (int n = 0; n < 7; n++) {
+            BallotDesk x = three(2);
+            for (int i = 0; i < 3; i++) due("pick", x.pick(1, i, i + 1), i + 1);
+            answer(x, 2, n == 0 ? 1 : 0, n == 2 ? 1 : 2);
+            pickAll(x, 2, 7);
+            for (int i = 0; i < 3; i++) voteSynced(x, 1, i, n);
+            for (int i = 0; i < 3; i++) yes("vote in 2", x.vote(2, i, n));
+            for (int i = 0; i < 3; i++) due("for itself", x.node(n, 2 + i), 23);
+            yes("down", x.power(n, false));
+            for (int i = 0; i < 3; i++) due("as it was synced, node " + n, x.node(n, 2 + i), 9 + i);
+            for (int i = 0; i < 3; i++) due("and for all others", x.node(n, 6 + i), 9 + i);
+            yes("up", x.power(n, true));
+            for (int i = 0; i < 3; i++) yes("it may vote again", x.vote(2, i, n));
+        }
     }
 
     private static void promiseBelow() {
@@ -564,6 +596,93 @@ public final class BallotBoundaryTest extends Checks {
         voteSynced(x, 2, 0, 2);
         answer(x, 4, 6, 5, 2, 0);
         due("neither the first nor the last node's, nor the greatest value", x.pick(4, 0, 1), 2);
+    }
+
+    private static void keptOfEach() {
+        for (int n = 0; n < 7; n++) {
+            for (int i = 0; i < 3; i++) {
+                BallotDesk x = new BallotDesk();
+                yes("4 of 7", x.define(0, COUNT, 127, 4, 4, 0));
+                for (int b = 1; b <= 2; b++) due("begin", x.begin(0, false), b);
+                pickAll(x, 1, 6);
+                voteSynced(x, 1, i, n);
+                answer(x, 2, n, (n + 1) % 7, (n + 2) % 7, (n + 3) % 7);
+                for (int j = 0; j < 3; j++) due("node " + n + ", instance " + i, x.pick(2, j, 5), j == i ? 6 : 5);
+            }
+        }
+    }
+
+    private static void keptByAnother() {
+        BallotDesk x = three(4);
+        pickAll(x, 1, 6);
+        for (int i = 0; i < 3; i++) voteSynced(x, 1, i, 6);
+        answer(x, 2, 6);
+        answer(x, 3, 0, 1);
+        for (int i = 0; i < 3; i++) due("2 keeps votes of node 6, not 3", x.pick(3, i, 5), 5);
+        BallotDesk y = three(4);
+        pickAll(y, 1, 6);
+        for (int i = 0; i < 3; i++) voteSynced(y, 1, i, 0);
+        answer(y, 4, 0);
+        answer(y, 3, 1, 2);
+        for (int i = 0; i < 3; i++) due("4 keeps votes of node 0, not 3", y.pick(3, i, 5), 5);
+        BallotDesk z = fastFour();
+        due("begin", z.begin(0, false), 3);
+        due("begin", z.begin(0, false), 4);
+        proposeSynced(z, 1, 0, 7, 0, 1, 2, 6);
+        answer(z, 2, 6);
+        answer(z, 4, 0);
+        answer(z, 3, 1, 2, 3);
+        due("two, and node 0 that did not answer 3", z.pick(3, 0, 5), 7);
+    }
+
+    /** Nodes 0 and 1 are a FAST quorum of one SYSTEM, nodes 2 to 4 of the other one. */
+    private static void systemOfK() {
+        for (int first = 0; first < 2; first++) {
+            BallotDesk x = new BallotDesk();
+            yes("define", x.define(first, LISTS, 3, 3, 3, 0));
+            yes("define", x.define(1 - first, LISTS, 28, 28, 28, 0));
+            due("fast", x.begin(0, true), 1);
+            due("not", x.begin(1, false), 2);
+            due("any", x.pick(1, 0, 1), 0);
+            if (first == 0) {
+                proposeSynced(x, 1, 0, 6, 0, 1);
+                answer(x, 2, 0, 1);
+            } else {
+                proposeSynced(x, 1, 0, 6, 2, 3, 4);
+                answer(x, 2, 2, 3, 4);
+            }
+            due("those that voted in 1 are one of its SYSTEM", x.pick(2, 0, 5), 6);
+        }
+        BallotDesk y = new BallotDesk();
+        yes("all seven are FAST", y.define(0, COUNT, 127, 1, 7, 7));
+        yes("one is FAST", y.define(1, COUNT, 1, 1, 1, 1));
+        due("fast", y.begin(0, true), 1);
+        due("not", y.begin(1, false), 2);
+        due("any", y.pick(1, 0, 1), 0);
+        proposeSynced(y, 1, 0, 6, 0);
+        answer(y, 2, 0, 1);
+        due("node 1 is missing for the SYSTEM of 1", y.pick(2, 0, 5), 5);
+    }
+
+    /** Five are FAST, three WRITE; one of seven does not ANSWER, and four of the others have VOTED for the same value. */
+    private static void silentOfEach() {
+        for (int silent = 0; silent < 7; silent++) {
+            for (int i = 0; i < 3; i++) {
+                due("four with node " + silent, pickWithout(silent, i, 4), 6);
+                due("three with node " + silent, pickWithout(silent, i, 3), 5);
+            }
+        }
+    }
+
+    private static int pickWithout(int silent, int i, int votes) {
+        BallotDesk x = new BallotDesk();
+        yes("define", x.define(0, COUNT, 127, 5, 3, 5));
+        due("fast", x.begin(0, true), 1);
+        due("not", x.begin(0, false), 2);
+        due("any", x.pick(1, i, 1), 0);
+        for (int next = 1; next <= votes; next++) proposeSynced(x, 1, i, 6, (silent + next) % 7);
+        for (int next = 1; next <= 6; next++) answer(x, 2, (silent + next) % 7);
+        return x.pick(2, i, 5);
     }
 
     private static void silentNodes() {
@@ -790,11 +909,12 @@ public final class BallotBoundaryTest extends Checks {
     private static void completeChosen() {
         for (int bound = 0; bound < 3; bound++) {
             BallotDesk x = three(2);
-            pickAll(x, 1, 6);
+            int value = 4 + bound;
+            for (int i = 0; i < 3; i++) due("pick", x.pick(1, i, 4 + i), 4 + i);
             voteSynced(x, 1, bound, 0, 1);
             answer(x, 2, 0, 1);
-            for (int i = 0; i < 3; i++) due("pick", x.pick(2, i, 5), i == bound ? 6 : 5);
-            due("it is chosen in 1", x.chosen(bound), 6);
+            for (int i = 0; i < 3; i++) due("pick", x.pick(2, i, 1 + i), i == bound ? value : 1 + i);
+            due("it is chosen in 1", x.chosen(bound), value);
             no("but not in 2", x.complete(2));
             voteSynced(x, 2, bound, 0, 3);
             no("nor by these", x.complete(2));
@@ -833,6 +953,18 @@ public final class BallotBoundaryTest extends Checks {
         due("lost", x.hear(0, 1), 0);
         voteSynced(x, 1, 0, 1);
         due("synced", x.hear(0, 1), 1);
+    }
+
+    private static void heardLatest() {
+        BallotDesk x = three(2);
+        pickAll(x, 1, 6);
+        voteSynced(x, 1, 0, 0, 1);
+        answer(x, 2, 0, 2);
+        due("bound", x.pick(2, 0, 1), 6);
+        voteSynced(x, 2, 0, 0);
+        due("its vote in 2, not the one in 1", x.hear(0, 0), 0);
+        due("so one in each", x.hear(0, 1), 0);
+        due("chosen in 1, but not learned", x.chosen(0), 6);
     }
 
     private static void heardAgain() {

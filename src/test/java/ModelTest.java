@@ -2,9 +2,10 @@ import java.util.ArrayDeque;
 import java.util.Deque;
 import java.util.Random;
 
-/** The same calls on BallotDesk and on the model, from fixed seeds, and all that can be seen compared now and then. */
+/** The same calls on BallotDesk and on the model, from fixed seeds; at the end of some runs all that can be seen. */
 public final class ModelTest {
-    private static final int RUNS = 500, CALLS = 300;
+    /** What an object answers after 512 calls is free; the last look at all takes fewer than 340 of them. */
+    private static final int RUNS = 1500, CALLS = 512, LAST_LOOK = 340;
     private static int wrong = 0;
 
     private Random random;
@@ -29,11 +30,15 @@ public final class ModelTest {
         same = true;
         calls.clear();
         for (int s = 0; s < 4; s++) define(s);
-        for (int call = 0; call < CALLS && same; call++) {
+        boolean lookLast = seed % 3 != 0;
+        // A step takes a few calls, and a new SYSTEM six.
+        int most = lookLast ? CALLS - LAST_LOOK : CALLS - 10;
+        while (calls.size() < most && same) {
             change();
             look();
-            if (call % 60 == 59) lookAtAll();
         }
+        if (lookLast) lookAtAll();
+        if (calls.size() > CALLS) due("calls", calls.size(), CALLS);
         if (!same) {
             wrong++;
             System.out.println("seed " + seed + ": " + String.join("; ", calls));
@@ -148,13 +153,15 @@ public final class ModelTest {
     }
 
     private void look() {
-        int b = ballotNumber(), i = number(0, 2), v = value();
-        switch (random.nextInt(6)) {
+        int b = ballotNumber(), i = number(0, 2), v = value(), n = number(0, 6), what = number(0, 11);
+        switch (random.nextInt(8)) {
             case 0: due("answers(" + b + ")", desk.answers(b), model.answers(b)); break;
             case 1: due("votes(" + b + ", " + i + ", " + v + ")", desk.votes(b, i, v), model.votes(b, i, v)); break;
             case 2: due("possible(" + i + ")", desk.possible(i), model.possible(i)); break;
             case 3: due("chosen(" + i + ")", desk.chosen(i), model.chosen(i)); break;
             case 4: due("tally(" + b + ", " + i + ", " + v + ")", desk.tally(b, i, v), model.tally(b, i, v)); break;
+            case 5: due("node(" + n + ", " + what + ")", desk.node(n, what), model.node(n, what)); break;
+            case 6: due("ballot(" + b + ", " + what + ")", desk.ballot(b, what), model.ballot(b, what)); break;
             default:
                 int l = number(0, 1);
                 due("learned(" + l + ", " + i + ")", desk.learned(l, i), model.learned(l, i));

@@ -502,6 +502,8 @@ public final class QuorumBoundaryTest extends Checks {
         yes("the least is the last in the list", x.define(1, LISTS, 127 + (32 << 21), 32, 127 + (96 << 14), 0));
         due("READ", x.system(1, READ, 0), 1);
         due("FAST", x.system(1, FAST, 0), 2);
+        yes("the last SYSTEM", x.define(3, COUNT, 127, 7, 1, 7));
+        due("its last kind", x.system(3, FAST, 0), 7);
     }
 
     private static void systemLosses() {
@@ -516,7 +518,7 @@ public final class QuorumBoundaryTest extends Checks {
         due("one", x.system(2, READ, 1), 1);
         yes("4 of 7 and 6", x.define(3, COUNT, 127, 4, 4, 6));
         due("three", x.system(3, READ, 1), 3);
-        due("one of FAST", x.system(3, FAST, 1), 1);
+        due("one of the last SYSTEM's last kind", x.system(3, FAST, 1), 1);
     }
 
     private static void systemTight() {
@@ -532,6 +534,8 @@ public final class QuorumBoundaryTest extends Checks {
         yes("a node that weighs nothing", x.define(3, WEIGHTS, 9110, 2, 10, 0));
         due("node 3, or nodes 1 and 2", x.system(3, READ, 2), 2);
         due("node 3 and one of them", x.system(3, WRITE, 2), 2);
+        yes("the last SYSTEM", x.define(3, COUNT, 127, 7, 1, 6));
+        due("its last kind", x.system(3, FAST, 2), 7);
     }
 
     private static void systemNone() {
@@ -572,6 +576,9 @@ public final class QuorumBoundaryTest extends Checks {
         due("two of three and all three", x.common(2, READ, 2, FAST), 2);
         due("the other way", x.common(2, FAST, 2, READ), 2);
         due("all and two of three", x.common(0, FAST, 2, READ), 2);
+        yes("the last SYSTEM", x.define(3, COUNT, 127, 7, 1, 7));
+        due("its last kind", x.common(3, FAST, 3, FAST), 7);
+        due("with the first", x.common(3, FAST, 0, READ), 7);
     }
 
     private static void commonNone() {
